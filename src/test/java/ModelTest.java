@@ -11,6 +11,8 @@ public final class ModelTest {
 
     private static final String[] PIECES = {"a", "b", "ab", "n", "n1", "a/", "b/", "a#", "#", "/", "s", "s/", "ss",
         "A", "9", "abcd", "q:", "a:", "b:", "ab:", "<", ">", "abcdefgh", "zz", "c", "d"};
+    // Names of these alone begin with one another, and most of them can be shorts.
+    private static final String[] NESTED_PIECES = {"x", "y", "x", "xy", "x:", "xx:"};
     private static final String[] OBSERVERS = {"space", "best", "propose", "print", "used", "meaning", "now", "was"};
     private static final String[] PAIRS = {"apart", "document", "near", "told"};
 
@@ -23,7 +25,7 @@ public final class ModelTest {
 
     private ModelTest(int run, Map<String, Integer> seen) {
         this.seen = seen;
-        style = run % 4;
+        style = run % 5;
         seed = run * 7919L + 17;
     }
 
@@ -113,13 +115,17 @@ public final class ModelTest {
     private void type() {
         int pieces = pick(4);
         for (int i = 0; i < pieces; i++) {
-            write(PIECES[pick(PIECES.length)]);
+            write(pieceOf(style == 4 ? NESTED_PIECES : PIECES));
         }
         if (pick(30) == 0) {
             same("type", number());
         }
         int end = pick(12);
         same(end == 0 ? "clear" : end < 8 ? "name" : "expand");
+    }
+
+    private String pieceOf(String[] pieces) {
+        return pieces[pick(pieces.length)];
     }
 
     private void write(String text) {

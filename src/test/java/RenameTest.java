@@ -9,6 +9,7 @@ public final class RenameTest {
         promise22JoinWithin();
         promise22JoinWrong();
         promise23RenamePlaces();
+        promise23RenameWhatOthersStandFor();
         promise23RenameKeepsShorts();
         promise23RenameClashes();
         promise23RenameWrong();
@@ -179,6 +180,18 @@ public final class RenameTest {
         Check.clashDue(book, 0, -1, -1);
     }
 
+    private static void promise23RenameWhatOthersStandFor() {
+        NameRules book = letters();
+        book.alias(0, 1);
+        book.alias(4, 1);
+        Check.due(book, 2, "rename", 1, 2);
+        Check.due(book, 2, "meaning", 0);
+        Check.due(book, 2, "meaning", 4);
+        Check.due(book, 1, "rename", 0, 3);
+        Check.due(book, 2, "meaning", 3);
+        Check.due(book, 0, "meaning", 0);
+    }
+
     private static void promise23RenameKeepsShorts() {
         NameRules book = vocabulary();
         Check.due(book, 0, "rename", 0, 2);
@@ -236,6 +249,9 @@ public final class RenameTest {
         }
         Check.unsupported(book, "rename", 0, 1);
         Check.unsupported(book, "rename", 2, 3);
+        Check.due(book, 0, "now", 0);
+        Check.due(book, 0, "was", 0);
+        Check.due(book, 2, "now", 2);
         Check.badArgument(book, "rename", 2, 2);
         Check.outOfBounds(book, "rename", 2, 5);
         Check.due(book, 1, "used", 0);

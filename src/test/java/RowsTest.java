@@ -11,6 +11,7 @@ public final class RowsTest {
         promise15And16Uses();
         promise17Unknown();
         promise17UnknownAsSpacesAreNow();
+        promise17FirstAndLastOfSixtyNames();
         promise18Apart();
         promise19Near();
         Check.finish();
@@ -195,6 +196,23 @@ public final class RowsTest {
         Check.due(book, -1, "unknown", 0);
         book.use(1);
         Check.due(book, 0, "count", 6);
+    }
+
+    private static void promise17FirstAndLastOfSixtyNames() {
+        NameRules book = Check.bookOf("sa", "s", "t", "sb");
+        for (int i = 0; i < 55; i++) {
+            Check.names(book, String.valueOf((char) ('!' + i)));
+        }
+        Check.names(book, "sz");
+        book.prefix(1, 2);
+        book.row(3, 0, 0);
+        book.use(0);
+        book.use(59);
+        Check.due(book, 2, "count", 6);
+        Check.due(book, 0, "unknown", 0);
+        Check.due(book, 59, "unknown", 1);
+        Check.due(book, -1, "unknown", 2);
+        Check.due(book, 1, "space", 59);
     }
 
     private static void promise18Apart() {

@@ -6,6 +6,7 @@ public final class ShortsTest {
         promise6PrefixWrong();
         promise7Space();
         promise7SpaceAsShortsCome();
+        promise7LongestSpaceIsNoMatterOfNumbers();
         promise8Best();
         promise9Propose();
         promise9ProposeWhenTaken();
@@ -92,6 +93,17 @@ public final class ShortsTest {
         Check.due(book, 1, "space", 2);
         book.prefix(0, 5);
         Check.due(book, 2, "space", 0);
+    }
+
+    private static void promise7LongestSpaceIsNoMatterOfNumbers() {
+        NameRules book = Check.bookOf("xy", "x", "xyz", "s", "t", "xz");
+        book.prefix(0, 3);
+        book.prefix(1, 4);
+        Check.due(book, 0, "space", 2);
+        Check.due(book, 3, "best", 2);
+        Check.printedDue(book, "s:z", "print", 2);
+        Check.due(book, 1, "space", 5);
+        Check.due(book, 1, "space", 0);
     }
 
     private static void promise8Best() {
