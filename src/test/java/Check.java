@@ -111,7 +111,7 @@ final class Check {
 
     private static StackTraceElement caller() {
         for (StackTraceElement element : new Throwable().getStackTrace()) {
-            if (!element.getClassName().equals("Check")) {
+            if (!element.getClassName().equals("Check") && !element.getClassName().startsWith("Run")) {
                 return element;
             }
         }
