@@ -327,6 +327,14 @@ public final class RenameEdgesTest {
         both.due(3, "meaning", 4);
         both.due(3, "meaning", 5);
         both.due(6, "meaning", 7);
+        Run firstAndLast = Run.ofLetters(60).then("alias", 0, 30).then("alias", 59, 30).then("alias", 30, 58);
+        firstAndLast.due(3, "rename", 30, 1);
+        firstAndLast.due(58, "meaning", 0);
+        firstAndLast.due(58, "meaning", 59);
+        firstAndLast.due(1, "alias", 1, 2);
+        firstAndLast.due(2, "meaning", 0);
+        firstAndLast.due(2, "meaning", 59);
+        firstAndLast.due(30, "meaning", 30);
     }
 
     // "its uses (one place, if there are any) come to those of the other one."

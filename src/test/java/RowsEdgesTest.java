@@ -10,11 +10,13 @@ public final class RowsEdgesTest {
         promise12FortyRows();
         promise12FullIsAskedBehindTheClash();
         promise12Clash();
+        termsNoTwoOfTheSameTerm();
         promise12TermHasNoSpace();
         promise12DomainAndRangeNeedNoSpace();
         promise12NoSuchName();
         promise12OrderOfWhatIsThrown();
         promise12TermThatLostItsSpace();
+        promise13TermDomainRange();
         promise13AnotherWhat();
         promise13NoSuchRow();
         promise13OrderOfWhatIsThrown();
@@ -95,6 +97,18 @@ public final class RowsEdgesTest {
         run.due(3, "count", 3);
     }
 
+    // "no two of the same term." - nor by a rename; a domain or a range may be another row's term.
+    private static void termsNoTwoOfTheSameTerm() {
+        Run run = rows(4, 2);
+        run.due(2, "row", 5, 3, 4);
+        run.clashes(-1, new int[] {2, 0, 3}, "row", 3, 5, 6);
+        run.clashes(-1, new int[] {4, 0, 1}, "rename", 3, 4);
+        run.due(2, "rename", 3, 6);
+        run.clashes(-1, new int[] {2, 0, 6}, "row", 6, 0, 0);
+        run.due(3, "row", 3, 0, 0);
+        run.due(4, "count", 3);
+    }
+
     // "IllegalStateException: the term has no space"
     private static void promise12TermHasNoSpace() {
         Run run = terms(1);
@@ -143,6 +157,16 @@ public final class RowsEdgesTest {
         Run run = rows(1, 1).then("rename", 3, 2);
         run.badState("row", 2, 0, 0);
         run.due(1, "row", 3, 0, 0);
+    }
+
+    // "its term (what = 0), domain (1), range (2)." - of the first row and of the last of 40.
+    private static void promise13TermDomainRange() {
+        Run run = rows(41, 39).then("row", 42, 43, 1);
+        int[][] due = {{3, 0, 2}, {42, 43, 1}};
+        for (int what = 0; what <= 2; what++) {
+            run.sameBehind(due[0][what], "told", 0, what);
+            run.sameBehind(due[1][what], "told", 39, what);
+        }
     }
 
     // "IllegalArgumentException: another what."
@@ -326,10 +350,24 @@ public final class RowsEdgesTest {
         run.then("rename", 5, 2);
         run.due(-1, "unknown", 0);
         run.due(0, "count", 6);
+        Run lastTermGone = rows(2, 1).then("use", 4);
+        lastTermGone.due(4, "unknown", 0);
+        lastTermGone.then("rename", 3, 2);
+        lastTermGone.due(-1, "unknown", 0);
+        lastTermGone.due(0, "count", 6);
     }
 
-    // "The unknown name i, from 0, by their numbers"
+    // "The unknown name i, from 0, by their numbers" - the first and the last of 60 names too.
     private static void promise17ByTheirNumbers() {
+        Run ends = Run.of("sa", "s", "t", "sb").then("prefix", 1, 2).then("row", 3, 0, 0);
+        for (int i = 0; i < 55; i++) {
+            ends.names(String.valueOf((char) ('!' + i)));
+        }
+        ends.names("sz").then("use", 59).then("use", 0);
+        ends.due(2, "count", 6);
+        ends.due(0, "unknown", 0);
+        ends.due(59, "unknown", 1);
+        ends.due(-1, "unknown", 2);
         Run run = rows(4, 1).then("use", 6).then("use", 6).then("use", 4).then("use", 5);
         for (int i = 0; i < 3; i++) {
             run.due(4 + i, "unknown", i);

@@ -17,6 +17,7 @@ public final class ShortsEdgesTest {
         termsSpaceWithWhichItBegins();
         termsSpaceBehindWhichItGoesOn();
         termsOnlySpacesCount();
+        termsRest();
         promise6Clash();
         promise6ClashIsNotAskedOfItsOwnSpace();
         promise6AlsoIfItIsOneOfThat();
@@ -198,6 +199,15 @@ public final class ShortsEdgesTest {
         run.due(-1, "space", 3);
     }
 
+    // "what goes on is its REST."
+    private static void termsRest() {
+        Run run = Run.of("ab", "s", "abab", "abs", "ab" + "c".repeat(22), "ab:").then("prefix", 0, 1);
+        run.printedDue("s:ab", "print", 2);
+        run.printedDue("s:s", "print", 3);
+        run.printedDue("s:" + "c".repeat(22), "print", 4);
+        run.printedDue("s::", "print", 5);
+    }
+
     // "false for clash 1" and "1 a short is to get a second space: the space that it has, the one that it was to get."
     private static void promise6Clash() {
         Run run = Run.of("s", "one", "two", "three", "r").then("prefix", 2, 0).then("prefix", 1, 4);
@@ -262,7 +272,7 @@ public final class ShortsEdgesTest {
         run.badArgument("prefix", 1, 0);
     }
 
-    // "NONE without one."
+    // "NONE without one." and "(It has none, if no space is so.)"
     private static void promise7None() {
         Run run = Run.of("one", "s", "two", "onex");
         run.due(-1, "space", 3);

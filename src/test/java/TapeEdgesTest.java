@@ -29,6 +29,8 @@ public final class TapeEdgesTest {
         promise4EmptyTape();
         promise4SixtyFirst();
         promise4EmptyTapeComesBeforeSixtyFirst();
+        promise5NameIsThere();
+        promise5AsItIsPrinted();
         promise5Between();
         promise5SomethingBetween();
         promise5BeginningAndEnd();
@@ -326,6 +328,33 @@ public final class TapeEdgesTest {
     // "IllegalStateException: the tape is empty; UnsupportedOperationException: it would be the 61st."
     private static void promise4EmptyTapeComesBeforeSixtyFirst() {
         Run.ofLetters(60).badState("name");
+    }
+
+    // "which comes if it is not there: its number"
+    private static void promise5NameIsThere() {
+        Run run = Run.of("sp", "b", "spx", "y").then("prefix", 0, 1);
+        run.type("b:x").due(2, "expand");
+        run.type("<spx>").due(2, "expand");
+        run.type("<y>").due(3, "expand");
+        run.due(4, "count", 0);
+        run.type("b:y").due(4, "expand");
+        run.type("<x>").due(5, "expand");
+        run.due(6, "count", 0);
+        run.printedDue("b:y", "print", 4);
+        run.printedDue("<x>", "print", 5);
+    }
+
+    // "The name that the tape tells as it is printed" - as long as the tape can hold that.
+    private static void promise5AsItIsPrinted() {
+        Run run = Run.of("sp", "bcde", "sp" + "x".repeat(19), "spx", "y".repeat(22), "!", "sp:", "<>", ":");
+        run.then("prefix", 0, 1);
+        String[] printed = {"<sp>", "<bcde>", "bcde:" + "x".repeat(19), "bcde:x", "<" + "y".repeat(22) + ">", "<!>", "bcde::",
+            "<<>>", "<:>"};
+        for (int name = 0; name < printed.length; name++) {
+            run.printedDue(printed[name], "print", name);
+            run.type(printed[name]).due(name, "expand");
+        }
+        run.due(9, "count", 0);
     }
 
     // "With '<' at the beginning and '>' at the end, and something between, it is that"
